@@ -1,5 +1,8 @@
 /** What the tests share: counting wrong answers, and putting a text on a desk's tape. */
 final class Check {
+    /** Numbers that are too far out for every argument with a range, where adding or taking away one may wrap round. */
+    static final int[] FAR = {Integer.MIN_VALUE, Integer.MIN_VALUE + 1, Integer.MAX_VALUE - 1, Integer.MAX_VALUE};
+
     private int wrong = 0;
     private final String name;
 
@@ -25,6 +28,58 @@ final class Check {
         if (wrong != 0) {
             System.exit(1);
         }
+    }
+
+    /** Reads a text on a new desk, and checks where its last ITEM ends and its STRIKES, written as "tick:bell ..". */
+    void reads(String text, int behind, String strikes) {
+        CarillonDesk desk = desk(text);
+        due("fault(0) of " + text, desk.fault(0), 0);
+        due("fault(1) of " + text, desk.fault(1), -1);
+        due("count(1) of " + text, desk.count(1), behind);
+        String got = strikes(desk);
+        due("strikes of " + text + " (" + got + ")", got.equals(strikes), true);
+    }
+
+    /** Reads a text on a new desk, and checks its FAULT and the FAULT's place (0 and -1 if it must have none). */
+    void faulty(String text, int kind, int place) {
+        CarillonDesk desk = new CarillonDesk();
+        due("score() without a FAULT of " + text, score(desk, text) != -1, kind == 0);
+        due("fault(0) of " + text, desk.fault(0), kind);
+        due("fault(1) of " + text, desk.fault(1), place);
+    }
+
+    /** The ticks (0) or BELLS (1) of all STRIKES. */
+    static int[] row(CarillonDesk desk, int what) {
+        int[] row = new int[desk.count(0)];
+        for (int k = 0; k < row.length; k++) {
+            row[k] = desk.strike(k, what);
+        }
+        return row;
+    }
+
+    /** The STRIKES of the SCORE, written as "tick:bell ..". */
+    static String strikes(CarillonDesk desk) {
+        StringBuilder all = new StringBuilder();
+        for (int k = 0; k < desk.count(0); k++) {
+            all.append(k == 0 ? "" : " ").append(desk.strike(k, 0)).append(':').append(desk.strike(k, 1));
+        }
+        return all.toString();
+    }
+
+    /** Who strikes each STRIKE in THE SETTING, one digit each. */
+    static String setting(CarillonDesk desk) {
+        StringBuilder all = new StringBuilder();
+        for (int k = 0; k < desk.count(0); k++) {
+            all.append(desk.by(k));
+        }
+        return all.toString();
+    }
+
+    /** A new desk that has read a text. */
+    static CarillonDesk desk(String text) {
+        CarillonDesk desk = new CarillonDesk();
+        score(desk, text);
+        return desk;
     }
 
     /** Puts a text of at most 1000 signs on the tape, which must be empty, and reads it. */

@@ -1,3 +1,5 @@
+import java.util.ArrayList;
+import java.util.List;
 import java.util.Random;
 
 /** Promises 17 to 21: THE DRUM and its pins, also against a try of every TURN. */
@@ -114,35 +116,50 @@ public final class DrumTest {
     private static void againstEveryTurn() {
         Random r = new Random(19);
         for (int i = 0; i < 300; i++) {
-            CarillonDesk d = new CarillonDesk();
             int steps = 1 + r.nextInt(i % 10 == 0 ? 2063 : 30);
-            d.drum(steps);
             int turn = -1;
             boolean[][] pins = new boolean[steps][24];
-            for (int round = 0; round < 6; round++) {
-                int bells = 2 + r.nextInt(5);
-                // A text with too many STRIKES leaves the SCORE before, which is as good here.
-                Check.score(d, randomText(r, steps, bells));
-                turn = checkChange(d, d.count(0), steps, pins, turn);
-                checkPins(d, steps, pins);
+            List<String> texts = new ArrayList<>();
+            while (texts.size() < 6) {
+                String text = randomText(r, steps, 2 + r.nextInt(5));
+                CarillonDesk scored = new CarillonDesk();
+                if (Check.score(scored, text) < 0) {
+                    continue;
+                }
+                // Made anew for each text, as a desk answers for 512 calls.
+                CarillonDesk d = pinned(steps, texts);
+                Check.score(d, text);
+                turn = checkChange(d, Check.row(scored, 0), Check.row(scored, 1), pins, turn);
+                checkPins(d, pins);
+                texts.add(text);
             }
         }
     }
 
-    private static int checkChange(CarillonDesk d, int n, int steps, boolean[][] pins, int turn) {
-        for (int k = 0; k < n; k++) {
-            if (d.strike(k, 0) >= steps) {
-                CHECK.due("change()", d.change(), -1);
-                CHECK.due("turn()", d.turn(), turn);
-                return turn;
-            }
+    private static CarillonDesk pinned(int steps, List<String> texts) {
+        CarillonDesk d = new CarillonDesk();
+        d.drum(steps);
+        for (String text : texts) {
+            Check.score(d, text);
+            d.change();
+        }
+        return d;
+    }
+
+    private static int checkChange(CarillonDesk d, int[] tick, int[] bell, boolean[][] pins, int turn) {
+        int steps = pins.length;
+        int n = tick.length;
+        if (n > 0 && tick[n - 1] >= steps) {
+            CHECK.due("change()", d.change(), -1);
+            CHECK.due("turn()", d.turn(), turn);
+            return turn;
         }
         int most = -1;
         int best = 0;
         for (int s = 0; s < steps; s++) {
             int kept = 0;
             for (int k = 0; k < n; k++) {
-                kept += pins[(d.strike(k, 0) + s) % steps][d.strike(k, 1)] ? 1 : 0;
+                kept += pins[(tick[k] + s) % steps][bell[k]] ? 1 : 0;
             }
             if (kept > most) {
                 most = kept;
@@ -153,19 +170,22 @@ public final class DrumTest {
             pins[s] = new boolean[24];
         }
         for (int k = 0; k < n; k++) {
-            pins[(d.strike(k, 0) + best) % steps][d.strike(k, 1)] = true;
+            pins[(tick[k] + best) % steps][bell[k]] = true;
         }
         CHECK.due("change()", d.change(), n - most);
         CHECK.due("turn()", d.turn(), best);
         return best;
     }
 
-    private static void checkPins(CarillonDesk d, int steps, boolean[][] pins) {
+    private static void checkPins(CarillonDesk d, boolean[][] pins) {
         int all = 0;
-        for (int s = 0; s < steps; s++) {
+        for (int s = 0; s < pins.length; s++) {
             for (int bell = 0; bell < 24; bell++) {
-                all += pins[s][bell] ? 1 : 0;
-                CHECK.due("pin(" + s + "," + bell + ")", d.pin(s, bell), pins[s][bell] ? 1 : 0);
+                if (pins[s][bell]) {
+                    all++;
+                    CHECK.due("pin(" + s + "," + bell + ")", d.pin(s, bell), 1);
+                    CHECK.due("pin(" + s + "," + (23 - bell) + ")", d.pin(s, 23 - bell), pins[s][23 - bell] ? 1 : 0);
+                }
             }
         }
         CHECK.due("pins()", d.pins(), all);

@@ -62,14 +62,10 @@ public final class SettingTest {
     }
 
     private static void setting(String text, int reach, int price, String want, int cost, int leftOut) {
-        CarillonDesk d = new CarillonDesk();
-        int n = Check.score(d, text);
+        CarillonDesk d = Check.desk(text);
         d.fists(reach, price);
-        StringBuilder got = new StringBuilder();
-        for (int k = 0; k < n; k++) {
-            got.append(d.by(k));
-        }
-        CHECK.due("setting of " + text + " " + got, got.toString().equals(want), true);
+        String got = Check.setting(d);
+        CHECK.due("setting of " + text + " " + got, got.equals(want), true);
         CHECK.due("cost of " + text, d.cost(), cost);
         CHECK.due("left out of " + text, d.count(2), leftOut);
     }
@@ -139,8 +135,8 @@ public final class SettingTest {
     }
 
     private static void checkAll(CarillonDesk d, int n, int reach, int price, String what) {
-        int[] tick = row(d, n, 0);
-        int[] bell = row(d, n, 1);
+        int[] tick = Check.row(d, 0);
+        int[] bell = Check.row(d, 1);
         int all = 1;
         for (int k = 0; k < n; k++) {
             all *= 3;
@@ -244,8 +240,8 @@ public final class SettingTest {
 
     /** Reckons STRIKE by STRIKE from the last one on, over all pairs of last STRIKES. */
     private static void byPlaces(CarillonDesk d, int n, int reach, int price, String what) {
-        int[] tick = row(d, n, 0);
-        int[] bell = row(d, n, 1);
+        int[] tick = Check.row(d, 0);
+        int[] bell = Check.row(d, 1);
         int[][][] rest = new int[n + 1][n + 1][n + 1];
         for (int k = n - 1; k >= 0; k--) {
             for (int l = 0; l <= k; l++) {
@@ -294,14 +290,6 @@ public final class SettingTest {
         }
         int went = Math.abs(bell[k] - bell[from]);
         return tick[k] > tick[from] && went <= reach * (tick[k] - tick[from]) ? went : NEVER;
-    }
-
-    private static int[] row(CarillonDesk d, int n, int what) {
-        int[] row = new int[n];
-        for (int k = 0; k < n; k++) {
-            row[k] = d.strike(k, what);
-        }
-        return row;
     }
 
     private static String randomText(Random r, int items, int most) {

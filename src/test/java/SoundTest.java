@@ -40,10 +40,10 @@ public final class SoundTest {
         CHECK.due("bits stay", d.quarrel(1), 4095);
         CHECK.due("quarrels of nothing", d.quarrels(), 0);
         for (int apart = 1; apart < 24; apart++) {
-            Check.score(d, "(0 " + apart + ")");
+            CarillonDesk two = Check.desk("(0 " + apart + ")");
             for (int bit = 0; bit < 12; bit++) {
-                d.quarrel(1 << bit);
-                CHECK.due("quarrels " + apart + " apart, bit " + bit, d.quarrels(), apart % 12 == bit ? 8 : 0);
+                two.quarrel(1 << bit);
+                CHECK.due("quarrels " + apart + " apart, bit " + bit, two.quarrels(), apart % 12 == bit ? 8 : 0);
             }
         }
     }
@@ -92,6 +92,8 @@ public final class SoundTest {
 
     private static void check(CarillonDesk d, int n, int bits, int[] tails, String text) {
         int behind = 2200;
+        int[] tickOf = Check.row(d, 0);
+        int[] bellOf = Check.row(d, 1);
         int[] length = new int[n];
         int quarrels = 0;
         // One SOUND at most of each BELL in each tick, as a STRIKE ends the one before.
@@ -99,8 +101,8 @@ public final class SoundTest {
         int[] until = new int[24];
         int next = 0;
         for (int tick = 0; tick < behind; tick++) {
-            while (next < n && d.strike(next, 0) == tick) {
-                int bell = d.strike(next, 1);
+            while (next < n && tickOf[next] == tick) {
+                int bell = bellOf[next];
                 sounding[bell] = next;
                 until[bell] = tick + tails[bell];
                 next++;

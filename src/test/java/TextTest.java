@@ -51,149 +51,149 @@ public final class TextTest {
     }
 
     private static void wellTold() {
-        strikes("", 0, "");
-        strikes("  \n ", 0, "");
-        strikes("b0", 4, "0:0");
-        strikes("b23:64", 64, "0:23");
-        strikes(" b 5 : 7 b007:001", 8, "0:5 7:7");
-        strikes("\nb\n5\n:\n7\n", 7, "0:5");
-        strikes("(9)", 4, "0:9");
-        strikes("( 9 3 23 0 ) : 2 _ b1", 6, "0:0 0:3 0:9 0:23 4:1");
-        strikes("(4 3)b1(2 1)", 12, "0:3 0:4 4:1 8:1 8:2");
-        strikes("t5 3:1", 1, "0:5");
-        strikes("t5 3", 4, "0:5 1:3 2:5 3:3");
-        strikes("_:3_:2b0", 7, "5:0");
-        strikes("3x{}", 0, "");
-        strikes("9x{9x{9x{9x{}}}}9x{} b1", 4, "0:1");
-        strikes("2x{b1:1}3x{b2}", 5, "0:1 1:1 2:2 3:2 4:2");
-        strikes("b1:1 2 x { 2x{b2}b3 }", 7, "0:1 1:2 2:2 3:3 4:2 5:2 6:3");
-        strikes("009x{_:1}b1", 10, "9:1");
-        strikes("1x{1x{1x{1x{b1}}}}1x{1x{1x{1x{b2}}}}", 8, "0:1 4:2");
+        CHECK.reads("", 0, "");
+        CHECK.reads("  \n ", 0, "");
+        CHECK.reads("b0", 4, "0:0");
+        CHECK.reads("b23:64", 64, "0:23");
+        CHECK.reads(" b 5 : 7 b007:001", 8, "0:5 7:7");
+        CHECK.reads("\nb\n5\n:\n7\n", 7, "0:5");
+        CHECK.reads("(9)", 4, "0:9");
+        CHECK.reads("( 9 3 23 0 ) : 2 _ b1", 6, "0:0 0:3 0:9 0:23 4:1");
+        CHECK.reads("(4 3)b1(2 1)", 12, "0:3 0:4 4:1 8:1 8:2");
+        CHECK.reads("t5 3:1", 1, "0:5");
+        CHECK.reads("t5 3", 4, "0:5 1:3 2:5 3:3");
+        CHECK.reads("_:3_:2b0", 7, "5:0");
+        CHECK.reads("3x{}", 0, "");
+        CHECK.reads("9x{9x{9x{9x{}}}}9x{} b1", 4, "0:1");
+        CHECK.reads("2x{b1:1}3x{b2}", 5, "0:1 1:1 2:2 3:2 4:2");
+        CHECK.reads("b1:1 2 x { 2x{b2}b3 }", 7, "0:1 1:2 2:2 3:3 4:2 5:2 6:3");
+        CHECK.reads("009x{_:1}b1", 10, "9:1");
+        CHECK.reads("1x{1x{1x{1x{b1}}}}1x{1x{1x{1x{b2}}}}", 8, "0:1 4:2");
     }
 
     /** The LENGTH that is left away is the text's, not that of what was gone through last. */
     private static void lengths() {
-        strikes("2x{b1 b2:8}", 24, "0:1 4:2 12:1 16:2");
-        strikes("2x{b1 b2:8}b3", 32, "0:1 4:2 12:1 16:2 24:3");
-        strikes("b0:1 2x{b1 2x{b2 b3:2}}b4", 17, "0:0 1:1 2:2 3:3 5:2 6:3 8:1 9:2 10:3 12:2 13:3 15:4");
-        strikes("_:2 b1 (2 3) t4 5 b6:1 _ b7", 11, "2:1 4:2 4:3 6:4 7:5 8:6 10:7");
-        strikes("2x{3x{}b1 _:1}", 10, "0:1 5:1");
+        CHECK.reads("2x{b1 b2:8}", 24, "0:1 4:2 12:1 16:2");
+        CHECK.reads("2x{b1 b2:8}b3", 32, "0:1 4:2 12:1 16:2 24:3");
+        CHECK.reads("b0:1 2x{b1 2x{b2 b3:2}}b4", 17, "0:0 1:1 2:2 3:3 5:2 6:3 8:1 9:2 10:3 12:2 13:3 15:4");
+        CHECK.reads("_:2 b1 (2 3) t4 5 b6:1 _ b7", 11, "2:1 4:2 4:3 6:4 7:5 8:6 10:7");
+        CHECK.reads("2x{3x{}b1 _:1}", 10, "0:1 5:1");
     }
 
     private static void faults() {
-        fault("c", 1, 0);
-        fault("B1", 1, 0);
-        fault("b1\t", 1, 2);
-        fault("b1\r", 1, 2);
-        fault("b", 1, 1);
-        fault("b  \n", 1, 4);
-        fault("bb", 1, 1);
-        fault("b-1", 1, 1);
-        fault("b24", 2, 1);
-        fault("b  999", 2, 3);
-        fault("b2400", 1, 4);
-        fault("b 0001", 1, 5);
-        fault("b1 2", 1, 4);
-        fault("b1 2 ", 1, 5);
-        fault("b1 2b", 1, 4);
-        fault("b1:", 1, 3);
-        fault("b1: ", 1, 4);
-        fault("b1:b", 1, 3);
-        fault("b1::2", 1, 3);
-        fault("b1:2:2", 1, 4);
-        fault("b1:0", 2, 3);
-        fault("b1: 65", 2, 4);
-        fault("b1:0640", 1, 6);
-        fault("b1,b2", 1, 2);
-        fault(":4", 1, 0);
-        fault("(", 1, 1);
-        fault("()", 1, 1);
-        fault("(1", 1, 2);
-        fault("(1 ", 1, 3);
-        fault("(1:", 1, 2);
-        fault("(1 2 3 4", 1, 8);
-        fault("(1 2 3 4 x", 1, 9);
-        fault("(1 2 3 4 5", 2, 9);
-        fault("(1 2 3 4 1", 2, 9);
-        fault("(1 2 3 4 0005", 1, 12);
-        fault("(1 24)", 2, 3);
-        fault("(1 001)", 2, 3);
-        fault("(7 8 7)", 2, 5);
-        fault("_", 0, -1);
-        fault("_1", 1, 2);
-        fault("_1x{}", 0, -1);
-        fault("_:", 1, 2);
-        fault("_5:", 1, 2);
-        fault("t", 1, 1);
-        fault("t5", 1, 2);
-        fault("t5 ", 1, 3);
-        fault("t5:4", 1, 2);
-        fault("t24 1", 2, 1);
-        fault("t1 24", 2, 3);
-        fault("t1 01", 2, 3);
-        fault("t(1 2)", 1, 1);
-        fault("t1 2 3", 1, 6);
-        fault("t1 2:0", 2, 5);
-        fault("3", 1, 1);
-        fault("0", 2, 0);
-        fault("0{", 2, 0);
-        fault("10", 2, 0);
-        fault(" 010x{}", 2, 1);
-        fault("0001x{}", 1, 3);
-        fault("2x", 1, 2);
-        fault("2x ", 1, 3);
-        fault("2xx{}", 1, 2);
-        fault("2{}", 1, 1);
-        fault("x{}", 1, 0);
-        fault("{}", 1, 0);
-        fault("2x{", 1, 3);
-        fault("2x{b1", 1, 5);
-        fault("2x{b1 ", 1, 6);
-        fault("2x{)}", 1, 3);
-        fault("2x{b1}:4", 1, 6);
-        fault("}", 1, 0);
-        fault("2x{}}", 1, 4);
-        fault("2x{2x{}", 1, 7);
-        fault("1x{1x{1x{1x{ 1 x {", 3, 17);
-        fault("1x{1x{1x{1x{1x", 1, 14);
-        fault("1x{1x{1x{1x{1x}", 1, 14);
-        fault("1x{1x{1x{1x{0x{", 2, 12);
-        fault("1x{1x{1x{1x{}1x{}}}}", 0, -1);
-        fault("1x{1x{1x{1x{}}1x{1x{}}}}", 0, -1);
-        fault("1x{1x{1x{1x{}}1x{1x{1x{", 3, 22);
+        CHECK.faulty("c", 1, 0);
+        CHECK.faulty("B1", 1, 0);
+        CHECK.faulty("b1\t", 1, 2);
+        CHECK.faulty("b1\r", 1, 2);
+        CHECK.faulty("b", 1, 1);
+        CHECK.faulty("b  \n", 1, 4);
+        CHECK.faulty("bb", 1, 1);
+        CHECK.faulty("b-1", 1, 1);
+        CHECK.faulty("b24", 2, 1);
+        CHECK.faulty("b  999", 2, 3);
+        CHECK.faulty("b2400", 1, 4);
+        CHECK.faulty("b 0001", 1, 5);
+        CHECK.faulty("b1 2", 1, 4);
+        CHECK.faulty("b1 2 ", 1, 5);
+        CHECK.faulty("b1 2b", 1, 4);
+        CHECK.faulty("b1:", 1, 3);
+        CHECK.faulty("b1: ", 1, 4);
+        CHECK.faulty("b1:b", 1, 3);
+        CHECK.faulty("b1::2", 1, 3);
+        CHECK.faulty("b1:2:2", 1, 4);
+        CHECK.faulty("b1:0", 2, 3);
+        CHECK.faulty("b1: 65", 2, 4);
+        CHECK.faulty("b1:0640", 1, 6);
+        CHECK.faulty("b1,b2", 1, 2);
+        CHECK.faulty(":4", 1, 0);
+        CHECK.faulty("(", 1, 1);
+        CHECK.faulty("()", 1, 1);
+        CHECK.faulty("(1", 1, 2);
+        CHECK.faulty("(1 ", 1, 3);
+        CHECK.faulty("(1:", 1, 2);
+        CHECK.faulty("(1 2 3 4", 1, 8);
+        CHECK.faulty("(1 2 3 4 x", 1, 9);
+        CHECK.faulty("(1 2 3 4 5", 2, 9);
+        CHECK.faulty("(1 2 3 4 1", 2, 9);
+        CHECK.faulty("(1 2 3 4 0005", 1, 12);
+        CHECK.faulty("(1 24)", 2, 3);
+        CHECK.faulty("(1 001)", 2, 3);
+        CHECK.faulty("(7 8 7)", 2, 5);
+        CHECK.faulty("_", 0, -1);
+        CHECK.faulty("_1", 1, 2);
+        CHECK.faulty("_1x{}", 0, -1);
+        CHECK.faulty("_:", 1, 2);
+        CHECK.faulty("_5:", 1, 2);
+        CHECK.faulty("t", 1, 1);
+        CHECK.faulty("t5", 1, 2);
+        CHECK.faulty("t5 ", 1, 3);
+        CHECK.faulty("t5:4", 1, 2);
+        CHECK.faulty("t24 1", 2, 1);
+        CHECK.faulty("t1 24", 2, 3);
+        CHECK.faulty("t1 01", 2, 3);
+        CHECK.faulty("t(1 2)", 1, 1);
+        CHECK.faulty("t1 2 3", 1, 6);
+        CHECK.faulty("t1 2:0", 2, 5);
+        CHECK.faulty("3", 1, 1);
+        CHECK.faulty("0", 2, 0);
+        CHECK.faulty("0{", 2, 0);
+        CHECK.faulty("10", 2, 0);
+        CHECK.faulty(" 010x{}", 2, 1);
+        CHECK.faulty("0001x{}", 1, 3);
+        CHECK.faulty("2x", 1, 2);
+        CHECK.faulty("2x ", 1, 3);
+        CHECK.faulty("2xx{}", 1, 2);
+        CHECK.faulty("2{}", 1, 1);
+        CHECK.faulty("x{}", 1, 0);
+        CHECK.faulty("{}", 1, 0);
+        CHECK.faulty("2x{", 1, 3);
+        CHECK.faulty("2x{b1", 1, 5);
+        CHECK.faulty("2x{b1 ", 1, 6);
+        CHECK.faulty("2x{)}", 1, 3);
+        CHECK.faulty("2x{b1}:4", 1, 6);
+        CHECK.faulty("}", 1, 0);
+        CHECK.faulty("2x{}}", 1, 4);
+        CHECK.faulty("2x{2x{}", 1, 7);
+        CHECK.faulty("1x{1x{1x{1x{ 1 x {", 3, 17);
+        CHECK.faulty("1x{1x{1x{1x{1x", 1, 14);
+        CHECK.faulty("1x{1x{1x{1x{1x}", 1, 14);
+        CHECK.faulty("1x{1x{1x{1x{0x{", 2, 12);
+        CHECK.faulty("1x{1x{1x{1x{}1x{}}}}", 0, -1);
+        CHECK.faulty("1x{1x{1x{1x{}}1x{1x{}}}}", 0, -1);
+        CHECK.faulty("1x{1x{1x{1x{}}1x{1x{1x{", 3, 22);
     }
 
     private static void lateAndMany() {
         String late = "5x{6x{_:64}}_:64 ";
-        fault(late + "_:15 b1", 0, -1);
-        strikes(late + "_:15 b1:64", 2063, "1999:1");
-        strikes(late + "_:15 t1 2:64", 2063, null);
-        fault(late + "_:16 b1", 4, late.length() + 5);
-        fault(late + "_:16 b", 4, late.length() + 5);
-        fault(late + "_:16 (", 4, late.length() + 5);
-        fault(late + "_:16 t", 4, late.length() + 5);
-        fault(late + "_:16 _", 4, late.length() + 5);
-        fault(late + "_:16 c", 1, late.length() + 5);
-        fault(late + "_:16 3x{}", 0, -1);
-        fault(late + "_:16 0x{}", 2, late.length() + 5);
-        fault("9x{b1:1 9x{_:64}}", 4, 11);
-        fault("9x{9x{_:64}}c", 4, 6);
-        fault("9x{9x{_:64}", 1, 11);
-        fault("9x{9x{_:64}}", 4, 6);
-        fault("9x{9x{_:64}c}", 1, 11);
-        fault("5x{5x{(1 2 3 4):1}}", 0, -1);
-        fault("5x{5x{(1 2 3 4):1}} b1", 4, 20);
-        fault("5x{5x{(1 2 3 4):1}} b1:", 1, 23);
-        fault("5x{5x{(1 2 3 4):1}} b1:0", 2, 23);
-        fault("5x{5x{(1 2 3 4):1}} b1c", 4, 20);
-        fault("5x{5x{(1 2 3 4):1}} b24", 2, 21);
-        fault("5x{5x{(1 2 3 4):1}} _ _", 0, -1);
-        fault("5x{5x{(1 2 3 4):1}} (1 1", 2, 23);
-        fault("t1 2:64 t1 2:36", 0, -1);
-        fault("t1 2:64 t1 2:37", 4, 8);
-        fault("9x{b1:1 5x{_ (1 2)}} (1 2", 1, 25);
-        fault("9x{b1:1 5x{_ (1 2)}} (1 2)", 4, 21);
-        fault("9x{b1:1 5x{_ (1 2)}} b1 b2", 4, 24);
+        CHECK.faulty(late + "_:15 b1", 0, -1);
+        CHECK.reads(late + "_:15 b1:64", 2063, "1999:1");
+        CHECK.due("t at the last tick", Check.desk(late + "_:15 t1 2:64").count(1), 2063);
+        CHECK.faulty(late + "_:16 b1", 4, late.length() + 5);
+        CHECK.faulty(late + "_:16 b", 4, late.length() + 5);
+        CHECK.faulty(late + "_:16 (", 4, late.length() + 5);
+        CHECK.faulty(late + "_:16 t", 4, late.length() + 5);
+        CHECK.faulty(late + "_:16 _", 4, late.length() + 5);
+        CHECK.faulty(late + "_:16 c", 1, late.length() + 5);
+        CHECK.faulty(late + "_:16 3x{}", 0, -1);
+        CHECK.faulty(late + "_:16 0x{}", 2, late.length() + 5);
+        CHECK.faulty("9x{b1:1 9x{_:64}}", 4, 11);
+        CHECK.faulty("9x{9x{_:64}}c", 4, 6);
+        CHECK.faulty("9x{9x{_:64}", 1, 11);
+        CHECK.faulty("9x{9x{_:64}}", 4, 6);
+        CHECK.faulty("9x{9x{_:64}c}", 1, 11);
+        CHECK.faulty("5x{5x{(1 2 3 4):1}}", 0, -1);
+        CHECK.faulty("5x{5x{(1 2 3 4):1}} b1", 4, 20);
+        CHECK.faulty("5x{5x{(1 2 3 4):1}} b1:", 1, 23);
+        CHECK.faulty("5x{5x{(1 2 3 4):1}} b1:0", 2, 23);
+        CHECK.faulty("5x{5x{(1 2 3 4):1}} b1c", 4, 20);
+        CHECK.faulty("5x{5x{(1 2 3 4):1}} b24", 2, 21);
+        CHECK.faulty("5x{5x{(1 2 3 4):1}} _ _", 0, -1);
+        CHECK.faulty("5x{5x{(1 2 3 4):1}} (1 1", 2, 23);
+        CHECK.faulty("t1 2:64 t1 2:36", 0, -1);
+        CHECK.faulty("t1 2:64 t1 2:37", 4, 8);
+        CHECK.faulty("9x{b1:1 5x{_ (1 2)}} (1 2", 1, 25);
+        CHECK.faulty("9x{b1:1 5x{_ (1 2)}} (1 2)", 4, 21);
+        CHECK.faulty("9x{b1:1 5x{_ (1 2)}} b1 b2", 4, 24);
     }
 
     private static void faultThatIsKept() {
@@ -239,29 +239,6 @@ public final class TextTest {
         CHECK.due("count(2)", d.count(2), 1);
         CHECK.due("count(3)", d.count(3), -1);
         CHECK.due("count(-1)", d.count(-1), -1);
-    }
-
-    /** Checks STRIKES written as "tick:bell ..", or the end alone where none are told. */
-    private static void strikes(String text, int behind, String want) {
-        CarillonDesk d = new CarillonDesk();
-        int n = Check.score(d, text);
-        CHECK.due("count(1) of " + text, d.count(1), behind);
-        CHECK.due("fault of " + text, d.fault(0), 0);
-        if (want != null) {
-            StringBuilder got = new StringBuilder();
-            for (int k = 0; k < n; k++) {
-                got.append(k == 0 ? "" : " ").append(d.strike(k, 0)).append(':').append(d.strike(k, 1));
-            }
-            CHECK.due("strikes of " + text + " (" + got + ")", got.toString().equals(want), true);
-        }
-    }
-
-    private static void fault(String text, int kind, int place) {
-        CarillonDesk d = new CarillonDesk();
-        int n = Check.score(d, text);
-        CHECK.due("score of " + text, n == -1, kind != 0);
-        CHECK.due("fault(0) of " + text, d.fault(0), kind);
-        CHECK.due("fault(1) of " + text, d.fault(1), place);
     }
 
     private static void againstSecondReader() {
