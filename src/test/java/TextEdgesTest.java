@@ -390,6 +390,16 @@ public final class TextEdgesTest {
         CHECK.reads("9x{ }b1", 4, "0:1");
         CHECK.reads("9x{9x{9x{9x{}}}}b1", 4, "0:1");
         CHECK.reads("3x{2x{}b1 2x{}}", 12, "0:1 4:1 8:1");
+        // As many rounds as a full tape can tell: what is behind them is read all the same.
+        fullOfGroups("b1:1 9x{9x{9x{", "9x{}", "}}}b2", 2, "0:1 1:2");
+        fullOfGroups("9x{9x{9x{_:1 ", "9x{}", "}}}b2", 730, "729:2");
+        fullOfGroups("9x{9x{9x{_:1 ", "1x{}", "}}}b2", 730, "729:2");
+        fullOfGroups("b1:1 ", "9x{9x{9x{9x{}}}}", "b2", 2, "0:1 1:2");
+    }
+
+    private static void fullOfGroups(String first, String group, String last, int behind, String strikes) {
+        int times = (1000 - first.length() - last.length()) / group.length();
+        CHECK.reads(first + group.repeat(times) + last, behind, strikes);
     }
 
     // Terms I: "at most 4 open at once"; "3 a 5th { that is open"
