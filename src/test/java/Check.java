@@ -95,7 +95,8 @@ final class Check {
         desk.end(text.length());
     }
 
-    private static int word(String text, int at) {
+    /** Four bytes of a text as one number for feed(), with blanks behind its end. */
+    static int word(String text, int at) {
         int word = 0;
         for (int i = at; i < at + 4; i++) {
             word = word << 8 | (i < text.length() ? text.charAt(i) & 255 : ' ');
