@@ -74,10 +74,12 @@ public final class RunsTest {
         score(text);
     }
 
-    /** What is on the tape is cut anywhere, and read. */
+    /** The tape is fed with more, now and then with too much, cut anywhere, and read. */
     private void odd() {
-        one(2);
-        end(random.nextInt(300));
+        for (int n = random.nextInt(4) == 0 ? 52 : 1; n > 0; n--) {
+            one(2);
+        }
+        end(random.nextInt(1050));
         score("what is there");
     }
 
